@@ -528,6 +528,11 @@ public final class PromisesTest {
         doing(x, "f*", 1);
         due("one burns there", x.jubilee(0b1010000), 0);
         due("one burns elsewhere", x.jubilee(0b1010001), 1);
+        due("jubilee(4095)", x.jubilee(4095), NONE);
+        x.candle(3, 5, 0, 1, 5);
+        x.candle(7, 5, 0, 1, 5);
+        due("jubilee(4095)", x.jubilee(4095), 0);
+        x.candle(3, 0, 0, 1, 5);
         due("jubilee(-1)", x.jubilee(-1), OUTSIDE);
         due("jubilee(4096)", x.jubilee(4096), OUTSIDE);
         promise = "21 trims";
