@@ -481,6 +481,8 @@ public final class BoundaryActsTest {
         wentOut(x, "a*j*...", 3, 9);
         wentOut(x, "j*e*a*...", 4, 4);
         wentOut(x, "we9e*.j*..", 2, 4);
+        wentOut(x, "a*...", 3, 0);
+        wentOut(x, "a*.e*j*..", 5, 0);
         wentOut(x, "j*.e*.wa3.", 3, 9);
         Streets.done(x, "j*..");
         wentOut(x, "e*...", 2, 4);

@@ -126,6 +126,14 @@ public final class BoundaryReckoningsTest {
         light(x, 4, 2, 5);
         due("his own window first, LASTS 1", x.round(3, 0), 1);
         due("the other window first", x.round(4, 0), NONE);
+        x = Streets.lit(0b100000000001, 1);
+        due("beside him, LASTS 1, west", x.round(1, 0), NONE);
+        due("beside him, LASTS 1, east", x.round(10, 0), NONE);
+        Streets.done(x, "a-");
+        due("beside him, LASTS 1, east alone", x.round(10, 0), NONE);
+        x = Streets.lit(0b110, 9);
+        light(x, 1, 1, 5);
+        due("one behind another, LASTS 1 the nearer", x.round(0, 0), NONE);
     }
 
     private static void roundMinutes() {
@@ -143,6 +151,10 @@ public final class BoundaryReckoningsTest {
         x = Streets.lit(4095, 99);
         due("all, from the west end", x.round(0, 0), 11);
         due("all, from the middle", x.round(5, 0), 16);
+        Streets.done(x, "l-k-a-b-");
+        due("all but the ends", x.round(5, 0), 10);
+        due("all but the ends, the first way", x.round(5, 1), 0);
+        due("all but the ends, from the last of them", x.round(9, 0), 7);
         x = Streets.lit(2049, 17);
         due("both ends in time", x.round(5, 0), 16);
         x = Streets.lit(2049, 16);
@@ -170,6 +182,9 @@ public final class BoundaryReckoningsTest {
         due("in time by east alone", x.round(5, 1), 1);
         light(x, 3, 8, 5);
         due("he can not", x.round(5, 1), NONE);
+        x = Streets.lit(0b100000000000, 99);
+        due("the last window is east", x.round(10, 1), 1);
+        due("the last window is beside", x.round(10, 0), 1);
     }
 
     // ---- 3 ACCOUNTS, JUBILEE, TRIMS
@@ -434,6 +449,10 @@ public final class BoundaryReckoningsTest {
         CandleDebts x = new CandleDebts();
         due("nothing to be seen: the least", x.look(0), 0);
         due("nothing to be seen: all", x.look(1), 2928);
+        x.candle(1, 999, 0, 1, 5);
+        due("the second one", x.look(0), 1);
+        due("the second one", x.look(1), 2928 - 13 * 60);
+        x.candle(1, 0, 0, 1, 5);
         x.candle(6, 999, 0, 1, 5);
         due("the one that tells", x.look(0), 6);
         due("the one that tells", x.look(1), 2928 - 16 * 60);
@@ -452,6 +471,20 @@ public final class BoundaryReckoningsTest {
         x.candle(8, 999, 0, 1, 5);
         due("halves of what is left", x.look(0), 9);
         due("halves of what is left", x.look(1), 2);
+        lookAtTheEndOfTheHour();
+    }
+
+    private static void lookAtTheEndOfTheHour() {
+        for (int lost : new int[] {57, 58, 59}) {
+            CandleDebts x = new CandleDebts();
+            for (int c : new int[] {2, 3, 4, 5, 7, 8}) {
+                x.candle(c, 999, 0, 1, 5);
+            }
+            x.seen(5, lost);
+            due("sixteen are left, lost " + lost, x.sneezes(-1), 16);
+            due("the least of two that part them alike, lost " + lost, x.look(0), 3);
+            due("nine of them, lost " + lost, x.look(1), 9);
+        }
     }
 
     // ---- 4 SNUFF
@@ -471,6 +504,20 @@ public final class BoundaryReckoningsTest {
         snuffs(0b000000011111, 1, 2);
         snuffs(0b000000011011, 0, NONE);
         snuffs(0b000000110111, 1, 0);
+        snuffs(0b110111110111, 0, NONE);
+        snuffs(0b111111110111, 1, 1);
+        snuffs(0b111101111111, 1, 1);
+        snuffs(0b111011111101, 1, 10);
+        snuffs(0b111110111111, 1, 8);
+        wholeRows();
+    }
+
+    /** Rows of one to twelve, all of the street the last. */
+    private static void wholeRows() {
+        int[] first = {0, 0, 1, NONE, 2, 0, 1, NONE, 4, 0, 1, 3};
+        for (int row = 1; row <= 12; row++) {
+            snuffs((1 << row) - 1, first[row - 1] == NONE ? 0 : 1, first[row - 1]);
+        }
     }
 
     private static void snuffs(int lit, int wins, int first) {

@@ -571,7 +571,7 @@ public final class ReferenceTest {
     private void sight() {
         int c = letter() - 'a', lost = draw(10);
         if (draw(3) != 0) {
-            lost = street.lossAt(c, draw(5), draw(20), draw(4));
+            lost = street.lossAt(c, draw(3) == 0 ? draw(12) : draw(5), draw(2) == 0 ? draw(61) : draw(20), draw(4));
         }
         boolean full = street.sights.size() == 8;
         due("seen(" + c + ", " + lost + ")", x.seen(c, lost), full ? FULL : street.sights.size() + 1);
@@ -669,7 +669,7 @@ public final class ReferenceTest {
 
     private void go() {
         for (int c = 0; c < 12 && run % 3 != 0; c++) {
-            int wax = draw(40), sum = draw(3) * draw(50);
+            int wax = run % 4 == 0 ? draw(1000) : draw(40), sum = draw(3) * draw(50);
             x.candle(c, wax, c % 6, c / 2, sum);
             street.wax[c] = wax;
             street.sum[c] = sum;
