@@ -694,6 +694,68 @@ public final class ReferenceTest {
         }
     }
 
+    /** Most are LIT and have little WAX: walks and readings are seldom in time. */
+    private void crowdedStreet() {
+        StringBuilder text = new StringBuilder();
+        x.matches(99);
+        street.matches = 99;
+        int most = 3 + draw(40);
+        for (int c = 0; c < 12; c++) {
+            int wax = draw(8) == 0 ? 0 : 1 + draw(most), sum = draw(3) == 0 ? 0 : 1 + draw(9);
+            int v = draw(3) == 0 ? draw(4) : 0;
+            x.candle(c, wax, 0, 1, sum);
+            x.draught(c, v);
+            street.wax[c] = wax;
+            street.sum[c] = sum;
+            street.debtor[c] = 1;
+            street.draught[c] = v;
+            if (wax > 0 && draw(4) != 0) {
+                String act = (char) ('a' + c) + "*";
+                text.append(act);
+                street.act(act, 0);
+            }
+        }
+        for (int i = 0; i < text.length(); i++) {
+            x.say(text.charAt(i));
+        }
+        due("done()", x.done(), text.length() / 2);
+    }
+
+    private void shortOfTime() {
+        for (int c = 0; c < 12; c++) {
+            due("round(" + c + ", 0)", x.round(c, 0), street.round(c, 0));
+            due("round(" + c + ", 1)", x.round(c, 1), street.round(c, 1));
+        }
+        for (int d = 1; d < 12; d++) {
+            due("accounts(" + d + ", 0)", x.accounts(d, 0), street.accounts(d, 0));
+            due("accounts(" + d + ", 1)", x.accounts(d, 1), street.accounts(d, 1));
+        }
+        for (int i = 0; i < 4; i++) {
+            int set = draw(4096) & draw(4096);
+            due("jubilee(" + set + ")", x.jubilee(set), street.jubilee(set));
+        }
+    }
+
+    /** SIGHTS of one true sneeze, near its window, each of which leaves fewer that fit. */
+    private void oneSneeze() {
+        int w = draw(12), t = draw(61), d = draw(4);
+        for (int i = 0; i < 4; i++) {
+            int c = Math.max(0, Math.min(11, w + draw(7) - 3));
+            int lost = street.lossAt(c, w, t, d);
+            due("seen(" + c + ", " + lost + ")", x.seen(c, lost), i + 1);
+            street.sights.add(new int[] {c, lost});
+            List<Integer> fit = street.sneezes();
+            due("sneezes(-1)", x.sneezes(-1), fit.size());
+            for (int k = 0; k < fit.size(); k += 1 + fit.size() / 40) {
+                due("sneezes(" + k + ")", x.sneezes(k), fit.get(k));
+            }
+            due("sneezes(" + fit.size() + ")", x.sneezes(fit.size()), NONE);
+            int[] look = street.look();
+            due("look(0)", x.look(0), look[0]);
+            due("look(1)", x.look(1), look[1]);
+        }
+    }
+
     private static void ships() {
         CandleDebts x = new CandleDebts();
         ReferenceTest told = new ReferenceTest(-1);
@@ -732,6 +794,12 @@ public final class ReferenceTest {
     public static void main(String[] args) {
         for (int run = 0; run < 150; run++) {
             new ReferenceTest(run).go();
+        }
+        for (int run = 1000; run < 1050; run++) {
+            ReferenceTest crowded = new ReferenceTest(run);
+            crowded.crowdedStreet();
+            crowded.shortOfTime();
+            crowded.oneSneeze();
         }
         ships();
         snuffs();
